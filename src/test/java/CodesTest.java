@@ -1,5 +1,6 @@
 import java.util.ArrayList;
 import java.util.Arrays;
+import java.util.Collections;
 import java.util.List;
 import java.util.Random;
 
@@ -7,12 +8,19 @@ import java.util.Random;
 public final class CodesTest {
     private static final Check CHECK = new Check();
     private static final Random RANDOM = new Random(100);
+    /** Used for some codes one after the other, as nothing of one may stay for the next. */
+    private static LabelGuard guard = new LabelGuard();
 
     public static void main(String[] args) {
         int fitting = 0;
         int safe = 0;
         for (int i = 0; i < 30000; i++) {
             int[][] code = RANDOM.nextInt(4) == 0 ? wildCode() : tameCode();
+            if (RANDOM.nextInt(3) == 0 && code.length > 0 && code.length < 50) {
+                code = scattered(code);
+            }
+            guard = i % 4 == 0 ? new LabelGuard() : guard;
+            guard.empty();
             if (RANDOM.nextInt(8) == 0 && code.length > 0) {
                 code[RANDOM.nextInt(code.length)][RANDOM.nextInt(2)] = RANDOM.nextInt(code.length + 4) - 2;
             }
@@ -24,6 +32,26 @@ public final class CodesTest {
         CHECK.same("many had their shape", true, fitting > 5000);
         CHECK.same("many were safe", true, safe > 2000 && safe < fitting - 1000);
         CHECK.end();
+    }
+
+    /** The same code in any order, a JUMP behind each instruction, so that nothing can lean on the order. */
+    private static int[][] scattered(int[][] code) {
+        List<Integer> places = new ArrayList<>();
+        for (int k = 0; k < code.length; k++) {
+            places.add(1 + 2 * k);
+        }
+        Collections.shuffle(places, RANDOM);
+        int[][] all = new int[1 + 2 * code.length][];
+        all[0] = new int[] {8, places.get(0)};
+        for (int k = 0; k < code.length; k++) {
+            boolean aims = code[k][0] == 7 || code[k][0] == 8;
+            boolean there = code[k][1] >= 0 && code[k][1] < code.length;
+            all[places.get(k)] = new int[] {code[k][0], aims && there ? places.get(code[k][1]) : code[k][1]};
+            all[places.get(k) + 1] = new int[] {8, k + 1 < code.length ? places.get(k + 1) : -1};
+        }
+        int last = places.get(code.length - 1);
+        all[last + 1][1] = all[last][0] == 9 ? 0 : all.length;
+        return all;
     }
 
     private static int[][] wildCode() {
@@ -97,7 +125,7 @@ public final class CodesTest {
     /** 0 without shape, 1 with it, 2 if it is safe too. */
     private static int compare(int[][] code) {
         Model.Levels levels = Model.Levels.randomLattice(RANDOM);
-        LabelGuard x = new LabelGuard();
+        LabelGuard x = guard;
         x.levels(levels.n, levels.below);
         int[] entry = new int[8];
         int[] policy = new int[8];

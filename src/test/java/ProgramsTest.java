@@ -7,6 +7,8 @@ import java.util.Random;
 public final class ProgramsTest {
     private static final Check CHECK = new Check();
     private static final Random RANDOM = new Random(17);
+    /** Used for some programs one after the other, as nothing of one may stay for the next. */
+    private static LabelGuard guard = new LabelGuard();
 
     private interface Expression {
         String text();
@@ -227,8 +229,8 @@ public final class ProgramsTest {
 
     public static void main(String[] args) {
         for (int i = 0; i < 6000; i++) {
-            List<Statement> row = row(0, RANDOM.nextInt(73));
-            compare(row);
+            guard = i % 6 == 0 ? new LabelGuard() : guard;
+            compare(row(0, RANDOM.nextInt(73)));
         }
         for (int i = 0; i < 60000; i++) {
             compareError(changed(textOf(row(0, RANDOM.nextInt(73)))));
@@ -272,7 +274,7 @@ public final class ProgramsTest {
         String text = textOf(row);
         CHECK.same("the model's own: " + text, -1, Model.errorPosition(text));
         Model.Levels levels = Model.Levels.randomLattice(RANDOM);
-        LabelGuard x = new LabelGuard();
+        LabelGuard x = guard;
         x.levels(levels.n, levels.below);
         int[] entry = randomLabels(levels, x, 0);
         int[] policy = new int[8];

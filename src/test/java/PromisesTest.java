@@ -531,6 +531,15 @@ public final class PromisesTest {
         regionsOf("not reached", "001.1", 1, 0, 7, 4, 9, 0, 9, 0, 9, 0);
         regionsOf("b inside a", "0011333110", 1, 0, 7, 9, 1, 1, 7, 7, 0, 1, 2, 2, 8, 7, 0, 5, 2, 3, 9, 0);
         regionsOf("a way out of a loop", "3333330", 1, 0, 7, 6, 1, 1, 7, 5, 8, 6, 8, 0, 9, 0);
+        regionsOf("many ways back", "01111111111000111", 8, 11, 7, 8, 0, 0, 8, 15, 9, 0, 8, 4, 8, 5, 8, 6, 8, 7,
+                8, 1, 8, 9, 1, 2, 1, 0, 7, 15, 8, 10, 2, 3, 9, 0);
+        LabelGuard x = guard(2, TWO);
+        x.label(0, 0, 1);
+        Check.putAll(x, 1, 0, 7, 3, 8, 0, 9, 0);
+        due("a loop", "4 1110", () -> x.verify() + " " + contexts(x));
+        x.empty();
+        Check.putAll(x, 1, 0, 7, 2, 8, 3, 9, 0);
+        due("nothing stays of its region", "4 0000", () -> x.verify() + " " + contexts(x));
         regionsOf("ZERO whose ways meet in a loop", "1131110", 1, 1, 7, 3, 8, 3, 1, 0, 7, 6, 8, 0, 9, 0);
     }
 
@@ -801,5 +810,11 @@ public final class PromisesTest {
         x.empty();
         due("without its code", 500, () -> x.follow(500));
         due("none looked at", "5 0", () -> Check.compiled(x, "e=1;f=e;") + " " + x.follow(0));
+        x.set(7, 1);
+        due("loops six deep", 23, () -> Check.compiled(x, "*h{".repeat(6) + "g=h;h=0;" + "}".repeat(6)));
+        due("are followed", "12 1", () -> x.follow(12) + " " + x.get(6));
+        due("brackets six deep", 15, () -> Check.compiled(x, "g=" + "(g*".repeat(6) + "2" + ")".repeat(6) + ";"));
+        x.set(6, 3);
+        due("are worked out", "0 1458", () -> x.follow(0) + " " + x.get(6));
     }
 }
