@@ -68,7 +68,8 @@ public final class FaceTest {
             CHECK.same("a private " + m.getName(), false, hidden && publicNames.contains(m.getName()));
         }
         for (Constructor<?> c : face.getDeclaredConstructors()) {
-            CHECK.same("constructor", "public()", Modifier.toString(c.getModifiers()) + "(" + names(c.getParameterTypes()) + ")");
+            String parameters = "(" + names(c.getParameterTypes()) + ")";
+            CHECK.same("constructor", "public()", Modifier.toString(c.getModifiers()) + parameters);
         }
         for (Field f : face.getDeclaredFields()) {
             boolean hidden = Modifier.isPrivate(f.getModifiers());
