@@ -50,6 +50,7 @@ public final class CodeBoundariesTest {
         labelsGoRoundAsOftenAsTheyChange();
         whatIsPutOnHasTheJoin();
         labelsOfEightOnTheStack();
+        whatStaysOnTheStackKeepsItsLabel();
         safeIsNotAboveThePolicy();
         safeAtEachEndThatIsReached();
         verifyThatThrowsAcceptsNothing();
@@ -610,6 +611,21 @@ public final class CodeBoundariesTest {
         LabelGuard w = shuffled(with(with(seven, 1, 0, 8, 9), with(times(8, 2, 5), 9, 0)));
         CHECK.due("verify", 18, w::verify);
         CHECK.due("JUMP", 0, () -> w.found(9, 16));
+        int[] twoWays = {1, 7, 7, 11, 1, 0, 8, 14, 1, 7, 2, 6, 8, 15, 2, 5};
+        LabelGuard v = shuffled(with(with(seven, twoWays), with(times(7, 2, 6), 9, 0)));
+        CHECK.due("verify", 23, v::verify);
+        CHECK.due("one way's eighth is not the other's", "0 4", () -> v.found(15, 5) + " " + v.found(15, 6));
+    }
+
+    /** What is not taken off stays on the stack with its label. */
+    private static void whatStaysOnTheStackKeepsItsLabel() {
+        int[][] others = {{8, 3, 8, 4}, {1, 7, 7, 4}, {1, 7, 2, 5}, {0, 1, 2, 5}};
+        for (int[] two : others) {
+            LabelGuard x = shuffled(with(with(new int[] {1, 0, 1, 1}, two), 2, 5, 2, 6, 9, 0));
+            CHECK.due("verify", 7, x::verify);
+            CHECK.due("0 and 2 stay", "0 2 -1", () -> x.found(4, 9) + " " + x.found(4, 10) + " " + x.found(4, 11));
+            CHECK.due("they are stored", "2 0", () -> x.found(6, 5) + " " + x.found(6, 6));
+        }
     }
 
     /** "each variable's label is not above its policy": the same one is not above, one beside is. */

@@ -46,6 +46,7 @@ public final class TextBoundariesTest {
         labelsOfBothSides();
         labelsOfALoop();
         labelsOfTheFirstAndTheLastVariable();
+        labelsOfTheOuterOne();
         labelsSixDeep();
         argumentsThatMeanNothingAre0();
         codeSixDeep();
@@ -586,6 +587,16 @@ public final class TextBoundariesTest {
         exits("04444443", "*b{a=h;}", "14444443");
         exits("44444443", "*b{c=a;a=h;}", "34344443");
         exits("04444444", "*b{c=h;h=a;}", "04044440");
+    }
+
+    /** "from the same labels, both programs", "the labels before": those of the outer one, whatever is inside. */
+    private static void labelsOfTheOuterOne() {
+        exits("04444443", "?b{h=a;?b{}{}}{g=h;}", "04444431");
+        exits("04444443", "?b{h=a;}{?b{}{}}", "04444441");
+        exits("04444443", "?b{h=a;*b{}}{}", "04444441");
+        exits("04444443", "?b{h=a;}{*b{}}", "04444441");
+        exits("04444443", "*b{h=a;*b{}}", "04444441");
+        exits("04444443", "*b{h=a;?b{}{}}", "04444441");
     }
 
     private static void reaches(String text, String names) {
