@@ -453,7 +453,7 @@ public final class CodeBoundariesTest {
 
     private static void contextsOf(String what, String want, int... kindsAndArguments) {
         LabelGuard x = shuffled(kindsAndArguments);
-        Check.answer(x::verify);
+        CHECK.due("verify: " + what, want.replace(".", "").length(), x::verify);
         CHECK.due("contexts: " + what, want, () -> contexts(x));
     }
 
